@@ -383,7 +383,7 @@ public final class PackedGraph {
             int at = from;
             while (at < to) {
                 int n = lengthAt(row, at, to);
-                if (n == 0) {
+                if (n <= 0) {
                     return at;
                 }
                 at += n;
@@ -567,6 +567,9 @@ public final class PackedGraph {
             } else {
                 lookUp(tape, at, lead - 0xc0);
             }
+            if (kind == EXTENSION) {
+                lookAtType(tape, at + head);
+            }
         }
 
         boolean isGroup() {
@@ -586,9 +589,6 @@ public final class PackedGraph {
                 length = tape.bigEndian(at + 1, width);
             }
             take(KINDS[row], 1 + width, KINDS[row] == MAP ? 2 * length : length);
-            if (kind == EXTENSION) {
-                lookAtType(tape, at + head);
-            }
         }
 
         private void lookAtType(ByteRow tape, int at) {
@@ -635,7 +635,11 @@ public final class PackedGraph {
         int endOfValue(ByteRow tape, int from) {
             long due = 1;
             int next = from;
-            while (due > 0 && next < tape.size()) {
+            // No value is without a byte, so there are never more of them.
+            for (int i = from; i < tape.size() && due > 0; i++) {
+                if (next >= tape.size()) {
+                    return NONE;
+                }
                 lead.look(tape, next);
                 if (lead.kind == NONE || lead.ownBytes() > tape.size() - next) {
                     return NONE;

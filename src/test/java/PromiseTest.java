@@ -104,6 +104,8 @@ public final class PromiseTest {
         Check.equal("full tape", y.count(3), 65520);
         Check.refused("feed of a full tape", UNSUPPORTED, () -> y.feed(0, 0, 0, 0, 0));
         Check.equal("full tape stays", y.count(3), 65520);
+        zeros(y, 65517);
+        Check.refused("feed past the last byte", UNSUPPORTED, () -> y.feed(0, 0, 0, 0, 0));
         y.end(65516);
         Check.equal("feed to the last byte", y.feed(0, 0, 0, 0, 0), 65536);
     }
@@ -390,6 +392,16 @@ public final class PromiseTest {
         Check.refused("row of bytes past all bytes", UNSUPPORTED, () -> x.row(6));
         Check.refused("extension past all bytes", UNSUPPORTED, () -> x.extension(5));
         counts("the tape stays", x, 10, 3, 65536, 1);
+        x.end(0);
+        Check.equal("a text without bytes", x.row(5), 10);
+        Check.equal("an extension without bytes", x.extension(5), 11);
+        Check.equal("a nil", x.nil(), 12);
+        Check.equal("a truth", x.truth(true), 13);
+        Check.equal("an integer", x.integer(5, false), 14);
+        Check.equal("a float", x.real(5, false), 15);
+        Check.equal("a time", x.time(5, 5), 16);
+        Check.equal("a list", x.group(7), 17);
+        faultIs(x, "94 c0 05 90 c400", 0, 0);
     }
 
     private static PackedGraph fullOfValues(int n) {
@@ -653,7 +665,8 @@ public final class PromiseTest {
         Check.equal("bits of a double", x.number(1), 0x923456789abcdef0L);
         Check.equal("packed float", Check.packed(x, 0), "ca9abcdef0");
         Check.equal("packed double", Check.packed(x, 1), "cb923456789abcdef0");
-        Check.equal("no detail", x.about(1, 2), 0);
+        Check.equal("no detail of a float", x.about(0, 2), 0);
+        Check.equal("no detail of a double", x.about(1, 2), 0);
     }
 
     private static void row() {
@@ -733,6 +746,7 @@ public final class PromiseTest {
         for (int v = 0; v < 2; v++) {
             Check.equal("kind", x.about(v, 0), 7 + v);
             Check.equal("length", x.about(v, 1), 0);
+            Check.equal("no detail", x.about(v, 2), 0);
             Check.equal("no packed length", x.about(v, 3), 0);
         }
     }
@@ -826,9 +840,12 @@ public final class PromiseTest {
             Check.equal("about(" + v + ", 3)", x.about(v, 3), packed[v]);
         }
         Check.equal("the out stays", x.count(4), 0);
+        int behind = Check.unpack(x, "93 d405ff a161 c40161");
+        Check.equal("a text behind an extension", x.about(behind + 2, 2), 0);
+        Check.equal("bytes behind an extension", x.about(behind + 3, 2), 0);
         Check.refused("about(0, -1)", ARGUMENT, () -> x.about(0, -1));
         Check.refused("about(0, 4)", ARGUMENT, () -> x.about(0, 4));
-        Check.refused("about(12, 0)", INDEX, () -> x.about(12, 0));
+        Check.refused("about(16, 0)", INDEX, () -> x.about(16, 0));
         Check.refused("no value before no what", INDEX, () -> x.about(-1, 4));
         PackedGraph y = new PackedGraph();
         zeros(y, 65533);
@@ -844,6 +861,7 @@ public final class PromiseTest {
 
     /** So many that the last twenty only fit when some before them go. */
     private static void zeros(PackedGraph x, int n) {
+        x.end(0);
         Check.feed(x, new byte[65516]);
         x.feed(0, 0, 0, 0, 0);
         x.end(n);
