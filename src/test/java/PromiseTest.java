@@ -13,6 +13,7 @@ public final class PromiseTest {
         unpackFailed();
         fault();
         faultsInOrder();
+        faultsAtTheEnd();
         faultsOfCharacters();
         faultsOfTimes();
         faultsOfReferences();
@@ -252,6 +253,32 @@ public final class PromiseTest {
         // A fault of a value counts before that of what is behind it.
         faultIs("92 a1 ff c1", 3, 2);
         faultIs("93 91 d4 00 05 c1", 5, 2);
+    }
+
+    /** Nothing behind the last byte is looked at, whatever was there before and however long the tape is. */
+    private static void faultsAtTheEnd() {
+        PackedGraph x = new PackedGraph();
+        Check.feed(x, "91c1c1c1");
+        x.end(1);
+        Check.equal("skip past the end", x.skip(0), PackedGraph.NONE);
+        Check.equal("unpack past the end", x.unpack(), PackedGraph.NONE);
+        Check.equal("code past the end", x.fault(0), 1);
+        Check.equal("place past the end", x.fault(1), 1);
+        for (int n = 0; n < 260; n++) {
+            String nils = "dc0200" + Check.repeat("c0", n);
+            faultIs(new PackedGraph(), nils, 1, n + 3);
+            for (String lead : new String[] {"cd", "d4", "c7", "c700", "c801", "dd", "da00", "ca"}) {
+                PackedGraph y = new PackedGraph();
+                faultIs(y, nils + lead, 1, n + 3);
+                skipIsNone(y, nils + lead);
+            }
+            skipIsNone(new PackedGraph(), nils);
+        }
+    }
+
+    private static void skipIsNone(PackedGraph x, String hex) {
+        Check.feed(x, hex);
+        Check.equal("skip past the end of " + hex, x.skip(0), PackedGraph.NONE);
     }
 
     private static void faultsOfCharacters() {
