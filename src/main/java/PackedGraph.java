@@ -327,7 +327,10 @@ public final class PackedGraph {
 
         /** The lowest n bytes of a number, the highest first. */
         void append(long number, int n) {
-            grow(n);
+            // Never more than eight bytes come here, so that twice the length is enough.
+            if (size + n > bytes.length) {
+                bytes = Arrays.copyOf(bytes, 2 * bytes.length);
+            }
             for (int i = n - 1; i >= 0; i--) {
                 bytes[size] = (byte) (number >> 8 * i);
                 size++;
@@ -335,7 +338,9 @@ public final class PackedGraph {
         }
 
         void appendAll(byte[] more) {
-            grow(more.length);
+            if (size + more.length > bytes.length) {
+                bytes = Arrays.copyOf(bytes, Math.max(size + more.length, 2 * bytes.length));
+            }
             System.arraycopy(more, 0, bytes, size, more.length);
             size += more.length;
         }
@@ -367,12 +372,6 @@ public final class PackedGraph {
                 }
             }
             return true;
-        }
-
-        private void grow(int more) {
-            if (size + more > bytes.length) {
-                bytes = Arrays.copyOf(bytes, Math.max(size + more, 2 * bytes.length));
-            }
         }
     }
 
