@@ -180,7 +180,8 @@ public final class FaultTest {
     /** A tape that fills the row it is held in: behind its last byte there is nothing at all to be looked at. */
     private static void missingInARowThatIsFull() {
         String[] lasts = {"91", "81", "cc", "cf", "ca", "a1", "d9", "da", "db", "c4", "c6", "c7", "c8", "c9", "d4",
-            "d8", "dc", "dd", "de", "df", "c700", "c900000000", "d400", "d4ff", "da00", "dd000000", "dc0001", "90", "c70000"};
+            "d8", "dc", "dd", "de", "df", "c700", "c900000000", "d400", "d4ff", "da00", "dd000000", "dc0001", "90",
+            "c70000"};
         for (int size = 64; size <= 2048; size *= 2) {
             for (String last : lasts) {
                 int nils = size - 3 - length(last);
