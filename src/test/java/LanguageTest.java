@@ -5,6 +5,7 @@ import java.lang.reflect.Method;
 import java.lang.reflect.Modifier;
 import java.nio.file.Files;
 import java.nio.file.Path;
+import java.util.ArrayList;
 import java.util.Arrays;
 import java.util.List;
 import java.util.Set;
@@ -16,8 +17,7 @@ import java.util.stream.Collectors;
 /** The face, and what of ../shared/LANGUAGE.md can be seen without a compiler of its own. */
 public final class LanguageTest {
     private static final Path SOURCE = Path.of("src/main/java/PackedGraph.java");
-    private static final String FACE = "about add clear count end extension fault feed find group integer nil number"
-        + " pack part put real row same shown skip time truth unpack";
+    private static final Path DOCUMENT = Path.of("../shared/DOC.md");
     private static final List<String> NOT_THERE = List.of("->", "::", "\\bfinally\\b", "\\bsynchronized\\b",
         "\\bassert\\b", "\\bHashMap\\b", "\\bHashSet\\b", "\\bstream\\b", "\\bgetMessage\\b", "\\bSystem\\.(?!arraycopy)",
         "\\w+Exact\\b", "\\bObject\\b", "\\bThread\\b", "\\bRandom\\b", "\\bstatic\\s*\\{", "\\bpackage\\b",
@@ -27,7 +27,8 @@ public final class LanguageTest {
 
     public static void main(String[] args) throws IOException {
         members();
-        exceptions();
+        face();
+        inside();
         source();
         Check.close("LanguageTest");
     }
@@ -43,7 +44,6 @@ public final class LanguageTest {
                 isPublic || Modifier.isPrivate(method.getModifiers()), true);
             (isPublic ? open : hidden).add(method.getName());
         }
-        Check.equal("public methods", String.join(" ", open), FACE);
         hidden.retainAll(open);
         Check.equal("private methods with public names", hidden.size(), 0);
         for (Field field : face.getDeclaredFields()) {
@@ -52,30 +52,58 @@ public final class LanguageTest {
         }
         Constructor<?>[] constructors = face.getDeclaredConstructors();
         Check.equal("constructors", constructors.length, 1);
+        Check.equal("public constructor", constructors[0].toString(), "public PackedGraph()");
         for (Class<?> inside : face.getDeclaredClasses()) {
             Check.equal(inside + " is static", Modifier.isStatic(inside.getModifiers()), true);
         }
         Check.equal("classes", face.getDeclaredClasses().length <= 12, true);
     }
 
-    private static void exceptions() {
-        exceptions("feed", "UnsupportedOperationException");
-        exceptions("end", "IllegalArgumentException");
-        exceptions("unpack", "");
-        exceptions("clear", "");
-        exceptions("pack", "IndexOutOfBoundsException UnsupportedOperationException");
-        exceptions("add", "IndexOutOfBoundsException IllegalArgumentException UnsupportedOperationException");
-        exceptions("number", "IndexOutOfBoundsException IllegalArgumentException ArithmeticException");
-    }
-
-    private static void exceptions(String name, String due) {
+    /** Every line of the document's face, with its parameters and exceptions. */
+    private static void face() throws IOException {
+        String block = Files.readString(DOCUMENT).split("```java\n|```")[1];
+        List<String> due = new ArrayList<>();
+        Matcher line = Pattern.compile("public (\\w+ \\w+)\\((.*?)\\)(?: throws (.*))?;").matcher(block);
+        while (line.find()) {
+            String types = line.group(2).replaceAll("(\\w+) \\w+", "$1");
+            due.add(line.group(1) + "(" + types + ") " + (line.group(3) == null ? "" : line.group(3)));
+        }
+        List<String> got = new ArrayList<>();
         for (Method method : PackedGraph.class.getDeclaredMethods()) {
-            if (method.getName().equals(name)) {
-                String got = Arrays.stream(method.getExceptionTypes()).map(Class::getSimpleName)
-                    .collect(Collectors.joining(" "));
-                Check.equal("exceptions of " + name, got, due);
+            if (Modifier.isPublic(method.getModifiers())) {
+                got.add(method.getReturnType().getSimpleName() + " " + method.getName() + "("
+                    + names(method.getParameterTypes()) + ") " + names(method.getExceptionTypes()));
             }
         }
+        Check.equal("the document's face was found", due.size(), 24);
+        due.sort(null);
+        got.sort(null);
+        for (int i = 0; i < Math.min(got.size(), due.size()); i++) {
+            Check.equal("method " + i, got.get(i), due.get(i));
+        }
+        Check.equal("methods", got.size(), due.size());
+    }
+
+    /** Rules 5 and 11: no static state, few fields, few parameters. */
+    private static void inside() {
+        List<Class<?>> classes = new ArrayList<>(List.of(PackedGraph.class.getDeclaredClasses()));
+        classes.add(PackedGraph.class);
+        for (Class<?> each : classes) {
+            int fields = 0;
+            for (Field field : each.getDeclaredFields()) {
+                boolean isStatic = Modifier.isStatic(field.getModifiers());
+                fields += isStatic ? 0 : 1;
+                Check.equal("static and not final: " + field, isStatic && !Modifier.isFinal(field.getModifiers()), false);
+            }
+            Check.equal("twenty fields of " + each, fields <= 20, true);
+            for (Method method : each.getDeclaredMethods()) {
+                Check.equal("seven parameters of " + method, method.getParameterCount() <= 7, true);
+            }
+        }
+    }
+
+    private static String names(Class<?>[] classes) {
+        return Arrays.stream(classes).map(Class::getSimpleName).collect(Collectors.joining(", "));
     }
 
     private static void source() throws IOException {

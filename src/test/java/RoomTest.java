@@ -7,6 +7,7 @@ public final class RoomTest {
     // 7.3 million fields and elements nor 600,000 objects.
     private static final long MOST = 7_300_000;
     private static final int CALLS = 512;
+    private static final int NILS = 0xc0c0c0c0;
 
     private interface Run {
         void on(PackedGraph x);
@@ -17,6 +18,7 @@ public final class RoomTest {
         Check.unpack(warm, "9281c0d40000a161");
         warm.pack(0);
         takes("long tapes with faults", RoomTest::longTapes);
+        takes("one list of all values", RoomTest::longLists);
         takes("many tapes with faults", x -> shortTapes(x, 0x9fc00000, false));
         takes("many tapes of deep lists", x -> shortTapes(x, 0x91919191, false));
         takes("many tapes of small lists", x -> shortTapes(x, 0xdc001191, true));
@@ -45,6 +47,18 @@ public final class RoomTest {
             }
             x.unpack();
             Check.equal("all are read, and bytes are left", x.fault(0), 8);
+        }
+    }
+
+    /** A list that grew by a few values at a time, and not twofold, would take the whole room here. */
+    private static void longLists(PackedGraph x) {
+        for (int tape = 0; tape < 3; tape++) {
+            x.feed(0xdc0bb5c0, NILS, NILS, NILS, NILS);
+            for (int i = 0; i < 149; i++) {
+                x.feed(NILS, NILS, NILS, NILS, NILS);
+            }
+            x.unpack();
+            Check.equal("one list is read", x.clear(), 2998);
         }
     }
 
